@@ -59,7 +59,7 @@ public final class WaitingWrites {
     /** What is in the chunk that is being made. */
     private final Bytes body = new Bytes(MOST_IN_CHUNK);
     /** The whole chunk that is being made. */
-    private final Bytes chunk = new Bytes(MOST_IN_CHUNK + HEAD_AND_TAIL + SIZE);
+    private final Bytes chunk = new Bytes(MOST_IN_CHUNK + HEAD_AND_TAIL);
     private final boolean[] marked = new boolean[ALL_BLOCKS];
     private final int[] movers = new int[BLOCKS];
     /** Of each extent, the number of the write of the record that emptied it. */
@@ -423,7 +423,6 @@ public final class WaitingWrites {
         chunk.addPair(stamps);
         chunk.addFrom(body, body.count);
         chunk.addPair(stamps);
-        chunk.padToBlock();
     }
 
     /** Makes a table of all places or of the changes: how many blocks it has. */
@@ -611,13 +610,6 @@ public final class WaitingWrites {
                 add(other.cells[i]);
             }
         }
-
-        void padToBlock() {
-            int missing = (SIZE - count % SIZE) % SIZE;
-            for (int i = 0; i < missing; i++) {
-                add(0);
-            }
-        }
     }
 
     /** A record as it was made; it never changes. */
@@ -748,6 +740,7 @@ public final class WaitingWrites {
 
         void fill(Bytes from, int start) {
             for (int i = 0; i < SIZE; i++) {
+                // Behind the chunk's end there is NONE to be had, and the block wants 0.
                 bytes[i] = Math.max(from.at(start + i), 0);
             }
         }
