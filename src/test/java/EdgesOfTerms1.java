@@ -426,6 +426,30 @@ public final class EdgesOfTerms1 {
         r.due(-1, r.about(4));
     }
 
+    static void terms1_room_putCountsAnEmptiedExtent() {
+        Run r = new Run();
+        States.withoutRoomForPut(r);
+        r.due(0, r.reclaim(0));
+        r.due(0, r.reclaim(1));
+        r.due(3, r.about(3));
+        r.putOnes(0, 15);
+        r.due(16, r.extent(6, 0));
+        r.due(112, r.put(0, 0));
+        r.due(0, r.about(4));
+        r.due(2, r.about(3));
+    }
+
+    static void terms1_room_flushOpensAnExtentJustEmptied() {
+        Run r = new Run();
+        States.withNoneEmpty(r, 1);
+        r.flush();
+        r.due(0, r.reclaim(3));
+        r.due(1, r.about(3));
+        r.delete(0);
+        r.due(1, r.flush());
+        r.due(3, r.about(4));
+    }
+
     static void terms1_room_flushOpensWhenTwoAreEmpty() {
         Run r = new Run();
         States.withoutRoomForPut(r);

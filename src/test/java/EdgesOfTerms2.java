@@ -128,6 +128,32 @@ public final class EdgesOfTerms2 {
         r.due(120, r.about(1));
     }
 
+    static void terms2_most_aTableThatEndsWithItsThirdBlock() {
+        Run r = new Run();
+        r.putAndFlush(0, 34);
+        r.put(0, 0);
+        for (int key = 0; key < 13; key++) {
+            r.put(key, 0);
+        }
+        r.due(116, r.about(1));
+        r.due(1, r.flush());
+        r.due(120, r.about(1));
+    }
+
+    static void terms2_most_aTableWithOneByteInItsThirdBlock() {
+        Run r = new Run();
+        r.putAndFlush(0, 35);
+        r.putOnes(0, 4);
+        for (int key = 0; key < 8; key++) {
+            r.put(key, 0);
+        }
+        r.due(117, r.about(1));
+        r.due(-3, r.flush());
+        r.settle(1);
+        r.due(1, r.flush());
+        r.due(120, r.about(1));
+    }
+
     /** An object of seven blocks in extent 0, and 109 writes and so many more that wait. */
     private static void crowdedAboutAnObject(Run r, int more) {
         r.storeSeven(1);
@@ -275,6 +301,28 @@ public final class EdgesOfTerms2 {
         r.due(0, r.waiting(0, 2));
     }
 
+    static void terms2_chunk_recordThatEmptiedItsExtentIsTheFirstThatWaits() {
+        Run r = new Run();
+        emptied0(r);
+        r.due(18, r.settle(18));
+        r.due(129, r.waiting(0, 1));
+        r.put(5, 0);
+        r.due(1, r.waiting(15, 2));
+    }
+
+    static void terms2_chunk_behindACrashWaitsForNothingLost() {
+        Run r = new Run();
+        States.crowded(r, 120);
+        r.crash();
+        r.recover();
+        r.putOnes(0, 96);
+        r.due(96, r.about(1));
+        r.due(96, r.about(2));
+        r.dueWaits(0, 0, 0, 0, 0);
+        r.flush();
+        r.dueWaits(96, 1, 1);
+    }
+
     static void terms2_ready_aRecordStaysSoWhenALaterOneTakesItsSlot() {
         Run r = new Run();
         emptied0(r);
@@ -361,6 +409,19 @@ public final class EdgesOfTerms2 {
         r.dueWaits(4, 4, 4, 2);
     }
 
+    static void terms2_table_waitsForTheLastOfManyWrites() {
+        Run r = new Run();
+        r.putOnes(0, 90);
+        r.store(1, 20);
+        r.flush();
+        r.due(94, r.about(1));
+        r.dueWaits(92, 3, 1);
+        r.settle(91);
+        r.dueWaits(0, 0, 1, 1);
+        r.settle(1);
+        r.dueWaits(0, 0, 1);
+    }
+
     static void terms2_table_inAnEmptiedExtentWaitsForTheRecordToo() {
         Run r = new Run();
         emptied0(r);
@@ -412,6 +473,20 @@ public final class EdgesOfTerms2 {
         r.due(2, r.waiting(5, 2));
         r.settle(3);
         r.dueWaits(0, 0, 1, 1);
+    }
+
+    static void terms2_record_waitsForTheRecordAheadThoughAllElseIsOnTheDisk() {
+        Run r = new Run();
+        r.putAndFlush(1, 1);
+        r.settle(2);
+        r.putAndFlush(1, 1);
+        r.dueWaits(0, 0, 0, 1, 2);
+    }
+
+    static void terms2_record_waitsForTheRecordAheadWhen120Wait() {
+        Run r = new Run();
+        States.crowded(r, 120);
+        r.dueWaits(117, 0, 1, 2);
     }
 
     static void terms2_record_doesNotWaitForARecordOnTheDisk() {
@@ -557,6 +632,20 @@ public final class EdgesOfTerms2 {
         r.dueWholeBlock(0, 6, 165, 2, 0, 7, 0, 6, 2, 1, 0, 0, 3, 0, 4, 0, 6);
         r.putAndFlush(4, 1);
         r.due(2, r.about(8));
+    }
+
+    static void terms2_flush_behindAMergedOneIsOfTheChangesAlone() {
+        Run r = new Run();
+        for (int key = 1; key <= 4; key++) {
+            r.putAndFlush(key, 1);
+        }
+        r.settle(200);
+        r.due(1, r.about(8));
+        r.due(9, r.extent(0, 0));
+        r.putAndFlush(9, 1);
+        r.due(2, r.about(8));
+        r.settle(200);
+        r.dueWholeBlock(0, 10, 165, 2, 0, 4, 0, 9, 1, 9, 0, 9, 0, 9);
     }
 
     static void terms2_flush_threeTablesOfARecoveredRecordMergeToo() {
@@ -706,6 +795,51 @@ public final class EdgesOfTerms2 {
         r.dueWaits(0, 0);
         r.settle(200);
         r.dueRecord(1, 3, 18, 20, 2, 0, 4, 0, 0, 0, 0, 0, 0, 1, 3, 1, 1, -1, -1);
+    }
+
+    static void terms2_reclaim_itsRecordAloneWaitsForNoWriteOfAnotherExtent() {
+        Run r = new Run();
+        r.putOnes(1, 18);
+        r.flush();
+        r.settle(16);
+        for (int number = 17; number <= 19; number++) {
+            r.due(number, r.issue(1));
+        }
+        r.due(16, r.waiting(0, 0));
+        r.due(0, r.reclaim(0));
+        r.due(2, r.about(1));
+        r.dueWaits(0, 0, 0);
+    }
+
+    static void terms2_reclaim_ofOneObjectWithoutOtherChanges() {
+        Run r = new Run();
+        r.putOnes(1, 16);
+        r.putAndFlush(2, 1);
+        r.settle(200);
+        r.due(0, r.about(9));
+        r.due(1, r.extent(0, 1));
+        r.due(1, r.reclaim(0));
+        r.due(1, r.about(8));
+        r.due(0, r.about(9));
+        r.dueTargets(0, 16 + 2, 16 + 3, 128, -1);
+        r.settle(200);
+        r.dueWholeBlock(1, 3, 165, 2, 0, 7, 0, 19, 2, 1, 1, 2, 2, 1, 0, 0, 19);
+    }
+
+    static void terms2_reclaim_ofTheNewestTableAlone() {
+        Run r = new Run();
+        r.put(1, 0);
+        r.delete(1);
+        r.flush();
+        r.settle(200);
+        r.crash();
+        r.due(0, r.recover());
+        r.due(1, r.extent(0, 1));
+        r.due(0, r.reclaim(0));
+        r.due(2, r.about(1));
+        r.due(1, r.about(8));
+        r.settle(200);
+        r.dueWholeBlock(1, 0, 165, 2, 0, 1, 0, 2, 0, 0, 2);
     }
 
     static void terms2_reclaim_ofATableThereMakesAMergedOne() {

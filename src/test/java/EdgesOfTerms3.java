@@ -278,6 +278,41 @@ public final class EdgesOfTerms3 {
         r.due(-1, r.list(1));
     }
 
+    static void terms3_recover_aTableThatWasLostIsNotThere() {
+        Run r = new Run();
+        r.putAndFlush(3, 1);
+        r.settle(200);
+        r.put(1, 0);
+        r.put(2, 0);
+        r.flush();
+        r.due(3, r.list(2));
+        r.crash();
+        r.due(1, r.recover());
+        r.due(1, r.about(8));
+        r.due(3, r.list(0));
+        r.due(-1, r.list(1));
+    }
+
+    static void terms3_recover_keysThatAreGoneBehindOthersInATable() {
+        Run r = new Run();
+        for (int key = 1; key <= 5; key++) {
+            r.put(key, 0);
+        }
+        r.flush();
+        r.put(2, 0);
+        r.delete(3);
+        r.delete(5);
+        r.flush();
+        r.settle(200);
+        r.crash();
+        r.due(3, r.recover());
+        r.due(1, r.list(0));
+        r.due(2, r.list(1));
+        r.due(4, r.list(2));
+        r.due(-1, r.get(3));
+        r.due(-1, r.get(5));
+    }
+
     // ---- the cache ----
 
     /** Keys from 0 on have an object of one block each, and all is on the disk. */
