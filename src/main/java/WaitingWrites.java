@@ -347,13 +347,11 @@ public final class WaitingWrites {
         off = false;
     }
 
+    /** The length that a chunk tells, from the write of its block that waits if there is one. */
     private int lengthAt(int place) {
-        return Math.max(byteOf(place, queue.latestOf(place), LENGTH_AT), 0);
-    }
-
-    /** A byte of a block, from the write of it that waits if there is one; this is no READ. */
-    private int byteOf(int block, Write write, int i) {
-        return write != null ? write.at(i) : platter.at(block, i);
+        Write write = queue.latestOf(place);
+        int length = write != null ? write.at(LENGTH_AT) : platter.at(place, LENGTH_AT);
+        return Math.max(length, 0);
     }
 
     private int blocksAt(int place) {
@@ -370,6 +368,7 @@ public final class WaitingWrites {
         }
     }
 
+    /** What is in a chunk; the count of READS and the cache are useChunk's alone. */
     private void fetchChunk(int place, Bytes into) {
         into.clear();
         int end = HEAD + lengthAt(place);
@@ -378,7 +377,7 @@ public final class WaitingWrites {
             for (int i = 0; i < SIZE; i++) {
                 int at = b * SIZE + i;
                 if (at >= HEAD && at < end) {
-                    into.add(byteOf(place + b, write, i));
+                    into.add(write != null ? write.at(i) : platter.at(place + b, i));
                 }
             }
         }
@@ -671,7 +670,7 @@ public final class WaitingWrites {
         }
     }
 
-    /** What outlives a crash. */
+    /** The blocks and the slots. */
     private static final class Disk {
         final int[] cells = new int[ALL_BLOCKS * SIZE];
         final Rec[] slots = new Rec[SLOTS];

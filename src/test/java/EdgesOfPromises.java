@@ -646,6 +646,46 @@ public final class EdgesOfPromises {
         }
     }
 
+    /** Puts and deletes key 0, twice so many mutations. */
+    private static void putAndDelete(Run r, int times, int before) {
+        for (int n = 0; n < times; n++) {
+            r.due(before + 2 * n + 1, r.put(0, 0));
+            r.due(before + 2 * n + 2, r.delete(0));
+        }
+    }
+
+    private static void reclaimEach(Run r, int... extents) {
+        r.settle(200);
+        for (int extent : extents) {
+            r.due(0, r.reclaim(extent));
+        }
+    }
+
+    static void promise10_nearlyAsManyHandlesAsCalls() {
+        Run r = new Run();
+        putAndDelete(r, 96, 0);
+        r.due(-2, r.put(0, 0));
+        reclaimEach(r, 0, 1, 2, 3, 4, 5);
+        r.settle(200);
+        r.due(192, r.about(7));
+        putAndDelete(r, 95, 192);
+        r.due(-2, r.put(0, 0));
+        reclaimEach(r, 0, 1, 2);
+        putAndDelete(r, 46, 382);
+        r.due(0, r.poll(474));
+        r.due(-1, r.poll(475));
+        r.settle(200);
+        r.due(382, r.about(7));
+        r.due(1, r.poll(382));
+        r.due(0, r.poll(383));
+        r.crash();
+        r.due(1, r.poll(382));
+        r.due(2, r.poll(383));
+        r.due(2, r.poll(474));
+        r.due(-1, r.poll(475));
+        r.due(474, r.about(0));
+    }
+
     // ---- 11: issue ----
 
     static void promise11_noneWaits() {

@@ -180,32 +180,34 @@ public final class EdgesOfTerms1 {
         r.due(257, r.about(10));
     }
 
-    /** No run of 512 calls makes so many chunks; the sentence is tested all the same. */
-    static void terms1_stamp_isModulo65536() {
-        Run r = Run.beyondThePromisedCalls();
+    /** No run of 512 calls comes to 65,536 chunks; this one comes to some 4,600. */
+    static void terms1_stamp_ofThousandsOfChunks() {
+        Run r = new Run();
         for (int key = 0; key < 17; key++) {
             r.put(key, 0);
         }
-        boolean highest = false;
-        boolean over = false;
-        for (int turn = 0; turn < 60000 && r.about(10) < 65700; turn++) {
-            boolean moved = r.reclaim(turn % 8) > 0;
-            r.settle(200);
-            if (moved) {
-                int made = r.about(10) - 1;
-                int slot = r.about(6) % 2;
-                int extent = r.record(slot, 12);
-                int block = r.record(slot, 13);
-                r.due(made % 65536 / 256, r.disk(extent, block, 4));
-                r.due(made % 256, r.disk(extent, block, 5));
-                r.due(made + 1, r.record(slot, 2));
-                highest |= made > 65000 && made <= 65535;
-                over |= made >= 65536;
+        int made = 17;
+        for (int turn = 0; turn < 350; turn++) {
+            int moved = turn < 2 ? 16 : 12;
+            r.due(moved, r.reclaim(turn % 3));
+            made += moved + 1;
+            if (turn % 5 == 4) {
+                r.settle(200);
             }
         }
-        if (!highest || !over) {
-            Run.fail("the run did not come to stamps 65,535 and above");
-        }
+        r.due(made, r.about(10));
+        r.due(350, r.record(0, 0));
+        r.due(made, r.record(0, 2));
+        int extent = r.record(0, 12);
+        int block = r.record(0, 13);
+        int high = (made - 1) / 256;
+        int low = (made - 1) % 256;
+        r.dueBlock(extent, block, 165, 2, 0, 1 + 3 * 17, high, low, 17, 0);
+        r.due(high, r.disk(extent, block + 3, 10));
+        r.due(low, r.disk(extent, block + 3, 11));
+        r.crash();
+        r.due(17, r.recover());
+        r.due(made, r.about(10));
     }
 
     static void terms1_stamp_isNotUsedUpByARefusedChunk() {

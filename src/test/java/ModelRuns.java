@@ -56,7 +56,6 @@ public final class ModelRuns {
         }
         int keys = random.nextInt(3) == 0 ? 48 : 2 + random.nextInt(14);
         int most = random.nextInt(3) == 0 ? 100 : 1 + random.nextInt(40);
-        List<String> trace = new ArrayList<>();
         int settled = 1 + random.nextInt(random.nextBoolean() ? 20 : 200);
         for (int c = 0; c < CALLS; c++) {
             int kind = choose(weights, random);
@@ -67,7 +66,6 @@ public final class ModelRuns {
             long got = call(real, kind, a);
             long due = model.call(kind, a);
             String told = Model.NAMES[kind] + Arrays.toString(a);
-            trace.add(told + " " + due);
             seen.merge(Model.NAMES[kind] + " " + due, 1, Integer::sum);
             if (got != due) {
                 wrong++;

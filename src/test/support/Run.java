@@ -18,20 +18,6 @@ final class Run {
 
     private final WaitingWrites x = new WaitingWrites();
     private final List<String> calls = new ArrayList<>();
-    private final boolean endless;
-
-    Run() {
-        this(false);
-    }
-
-    private Run(boolean endless) {
-        this.endless = endless;
-    }
-
-    /** For the few cases that no run of 512 calls comes to. */
-    static Run beyondThePromisedCalls() {
-        return new Run(true);
-    }
 
     static void begin(String name) {
         test = name;
@@ -59,7 +45,7 @@ final class Run {
 
     private int told(String call, int answer) {
         calls.add(call);
-        if (calls.size() == MOST_CALLS + 1 && !endless) {
+        if (calls.size() == MOST_CALLS + 1) {
             fail("the run has more calls than are promised");
         }
         return answer;
